@@ -1061,7 +1061,7 @@ public final class FamineCode {
         private static final int END = 2;
         private static final int TELL = 3;
         private static final int KEPT_MOST = 50;
-        // The bodies here go some ten deep; the guard is for bodies still to be written.
+        // No body of the table goes as deep: this bounds the calls whatever stands there.
         private static final int DEEPEST = 40;
         private static final int[] BODIES = {
             10, 11, 12, 13,

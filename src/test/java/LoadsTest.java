@@ -1,22 +1,25 @@
+import java.util.Arrays;
 import java.util.Random;
 
 /** Promises 13, 23 and 24 on small loads: all tons on all ways are gone through, in their order. */
 public final class LoadsTest {
-    private static final int ROUNDS = 4000;
+    private static final int ROUNDS = 40000;
+    private static final int TONS_MOST = 16;
 
     private final Random random = new Random(7);
     private final Due due = new Due();
     private final int[] store = new int[6];
-    private final int[][] ways = new int[6][];
+    private final int[][] ways = new int[8][];
+    private final int[][] best = new int[TONS_MOST + 1][];
+    private final int[] bestPrice = new int[TONS_MOST + 1];
     private int districts;
     private int count;
-    private int[] best;
-    private int bestPrice;
 
-    private void search(int[] tons, int w, int goal, int n, int keep) {
+    /** Finds the load for every n at once. */
+    private void search(int[] tons, int w, int goal, int keep) {
         if (w < count) {
             for (tons[w] = 0; tons[w] <= ways[w][2]; tons[w]++) {
-                search(tons, w + 1, goal, n, keep);
+                search(tons, w + 1, goal, keep);
             }
             return;
         }
@@ -27,14 +30,15 @@ public final class LoadsTest {
             sent[ways[i][1]] -= tons[i];
             price += tons[i] * ways[i][3];
         }
-        boolean fits = sent[goal] == -n;
+        int n = -sent[goal];
+        boolean fits = n > 0;
         for (int d = 0; d < districts; d++) {
             fits &= d == goal || (sent[d] >= 0 && sent[d] <= Math.max(0, store[d] - keep));
         }
         // Tons go up from the first way on, so of like prices the first one found is the load.
-        if (fits && (best == null || price < bestPrice)) {
-            best = tons.clone();
-            bestPrice = price;
+        if (fits && (best[n] == null || price < bestPrice[n])) {
+            best[n] = tons.clone();
+            bestPrice[n] = price;
         }
     }
 
@@ -42,51 +46,61 @@ public final class LoadsTest {
         FamineCode x = new FamineCode();
         districts = 2 + random.nextInt(4);
         for (int d = 0; d < districts; d++) {
-            store[d] = random.nextInt(6);
+            store[d] = random.nextInt(4);
             x.district(store[d], 1);
         }
-        count = 1 + random.nextInt(6);
+        int prices = 2 + random.nextInt(6);
+        count = 4 + random.nextInt(5);
         for (int w = 0; w < count; w++) {
             int from = random.nextInt(districts);
             int to = (from + 1 + random.nextInt(districts - 1)) % districts;
-            ways[w] = new int[] {from, to, 1 + random.nextInt(3), 1 + random.nextInt(3)};
+            ways[w] = new int[] {from, to, 1 + random.nextInt(2), 1 + random.nextInt(prices)};
             due.is("way", w, x.way(from, to, ways[w][2], ways[w][3]));
         }
         return x;
     }
 
+    /** Answers how many tons can come at most. */
     private int round(int number) {
         FamineCode x = make();
         int goal = random.nextInt(districts);
-        int n = 1 + random.nextInt(5);
-        int keep = random.nextInt(3);
-        best = null;
-        search(new int[count], 0, goal, n, keep);
-        due.is("round " + number + " load", best == null ? -1 : bestPrice, x.load(goal, n, keep));
-        for (int w = 0; w < count; w++) {
-            due.is("round " + number + " way " + w, best == null ? -1 : best[w], x.loaded(goal, n, keep, w));
+        int keep = random.nextInt(2);
+        Arrays.fill(best, null);
+        search(new int[count], 0, goal, keep);
+        int most = 0;
+        for (int n = 1; n <= TONS_MOST; n++) {
+            String told = "round " + number + " n " + n;
+            due.is(told + " load", best[n] == null ? -1 : bestPrice[n], x.load(goal, n, keep));
+            for (int w = 0; w < count; w++) {
+                due.is(told + " way " + w, best[n] == null ? -1 : best[n][w], x.loaded(goal, n, keep, w));
+            }
+            most = best[n] == null ? most : n;
         }
-        due.is("round " + number + " no way", -1, x.loaded(goal, n, keep, count));
-        due.is("round " + number + " bring", best == null ? -1 : bestPrice, x.bring(goal, n, keep));
-        due.is("round " + number + " status", best == null ? 3 : 0, x.status());
-        for (int w = 0; best != null && w < count; w++) {
-            store[ways[w][0]] -= best[w];
-            store[ways[w][1]] += best[w];
+        due.is("round " + number + " no way", -1, x.loaded(goal, 1, keep, count));
+        broughtIs(x, goal, 1 + random.nextInt(most + 1), keep);
+        return most;
+    }
+
+    private void broughtIs(FamineCode x, int goal, int n, int keep) {
+        due.is("bring", best[n] == null ? -1 : bestPrice[n], x.bring(goal, n, keep));
+        due.is("status of bring", best[n] == null ? 3 : 0, x.status());
+        for (int w = 0; best[n] != null && w < count; w++) {
+            store[ways[w][0]] -= best[n][w];
+            store[ways[w][1]] += best[n][w];
         }
         for (int d = 0; d < districts; d++) {
-            due.is("round " + number + " store " + d, store[d], x.told(d, 0));
+            due.is("store " + d + " after bring", store[d], x.told(d, 0));
         }
-        return best == null ? 0 : 1;
     }
 
     public static void main(String[] args) {
         LoadsTest test = new LoadsTest();
-        int found = 0;
+        int large = 0;
         for (int i = 0; i < ROUNDS && !test.due.isWrong(); i++) {
-            found += test.round(i);
+            large += test.round(i) > 2 ? 1 : 0;
         }
-        System.out.println(found + " of " + ROUNDS + " had a load");
-        test.due.is("enough loads were found", 1, found > ROUNDS / 8 ? 1 : 0);
+        System.out.println(large + " of " + ROUNDS + " had a load of more than 2 tons");
+        test.due.is("enough large loads", 1, large > ROUNDS / 8 ? 1 : 0);
         test.due.end();
     }
 }

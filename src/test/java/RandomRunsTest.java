@@ -9,12 +9,12 @@ public final class RandomRunsTest {
     /** Each call with the ranges of its numbers; a leading number tells how often it comes. */
     private static final String[] CALL_TABLE = {
         "3 district 0:99999 1:99", "4 people d 0:2 0:999", "4 coins d 0:2 0:99999", "1 price d 1:99",
-        "1 wage 0:99", "12 sign d 0:3 w -99:99", "4 line 0:5 t -400:400 0:1 l", "1 end l", "8 week",
-        "3 way d d 1:999 1:99", "3 work d 1:999 0:99", "4 bring d 1:9999 0:99999", "1 image", "1 back",
-        "4 told d 0:14", "5 known d 0:3 w w", "5 holds l d w w", "5 open d w w", "5 why 0:5 d w w",
-        "3 was d w", "3 lineTold l 0:8", "4 load d 1:9999 0:99999", "5 loaded d 1:9999 0:99999 0:11",
-        "4 fewest d 0:9999 0:5", "4 beside l 1:20 0:4", "3 count 0:10", "5 act l 0:3 i", "4 trace 0:12",
-        "4 sheet 0:3 -1:2 0:40", "8 cell 0:3 0:39 -1000:1000", "8 signs d 0:3 0:3 0:2 0:39 0:20",
+        "1 wage 0:99", "12 sign d s w -99:99", "4 line 0:5 t -400:400 0:1 l", "1 end m", "8 week",
+        "3 way d d 1:999 1:99", "3 work d 1:999 0:99", "4 bring d n 0:99999", "1 image", "1 back",
+        "4 told d 0:14", "8 known d s w w", "5 holds m d w w", "5 open d w w", "5 why 0:5 d w w",
+        "3 was d w", "3 lineTold m 0:8", "4 load d n k", "5 loaded d n k 0:11",
+        "4 fewest d n 0:5", "4 beside l 1:20 0:4", "3 count 0:10", "5 act m 0:3 i", "4 trace 0:12",
+        "6 sheet 0:3 -1:2 0:40", "8 cell 0:3 f -1000:1000", "10 signs d s 0:3 0:2 f f",
         "12 forge 0:6 -100:100 -100:100", "0 status"
     };
 
@@ -36,10 +36,11 @@ public final class RandomRunsTest {
         int[] weightsOf(Random random) {
             int[] row = weights.clone();
             for (int i = 0; i < row.length; i++) {
-                int liking = random.nextInt(8);
-                row[i] *= liking == 0 ? 0 : liking == 1 ? 8 : 2;
+                int liking = random.nextInt(12);
+                row[i] *= liking == 0 ? 0 : liking == 1 ? 8 : liking == 2 ? 40 : 2;
             }
             row[0] = Math.max(row[0], 6);
+        row[6] = Math.max(row[6], 4);
             return row;
         }
 
@@ -62,10 +63,15 @@ public final class RandomRunsTest {
         }
         int slip = random.nextInt(300) < wildness ? 1 : 0;
         switch (range) {
-            case "d": return random.nextInt(plain.world.districts.size() + slip + 1) - slip;
+            case "d": return random.nextInt(Math.max(1, plain.world.districts.size() + 2 * slip)) - slip;
             case "l": return random.nextInt(plain.world.lines.size() + 1 + slip) - 1;
+            case "m": return random.nextInt(Math.max(1, plain.world.lines.size() + 2 * slip)) - slip;
             case "w": return Math.max(0, plain.world.week + slip - random.nextInt(6) * random.nextInt(2));
             case "t": return random.nextInt(4) + 4 * (1 + random.nextInt(4 + slip)) + 32 * random.nextInt(3 + slip);
+            case "s": return random.nextInt(4 + slip) & (random.nextInt(3) == 0 ? 7 : 1);
+            case "f": return random.nextInt(random.nextInt(3) == 0 ? 21 : 4);
+            case "n": return slip == 1 ? 10000 : random.nextInt(random.nextInt(9) == 0 ? 10000 : 800);
+            case "k": return slip == 1 ? 100000 : random.nextInt(random.nextInt(3) == 0 ? 100000 : 10);
             case "i": return random.nextInt(3) == 0 ? random.nextInt() : random.nextInt(41) - 20;
             default:
         }
