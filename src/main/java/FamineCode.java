@@ -557,7 +557,9 @@ public final class FamineCode {
 
         int add(int store, int price) {
             int district = count++;
-            Arrays.fill(facts, district * FACTS, (district + 1) * FACTS, 0);
+            for (int fact = 0; fact < FACTS; fact++) {
+                put(district, fact, 0);
+            }
             put(district, STORE, store);
             put(district, PRICE, price);
             return district;
@@ -1150,7 +1152,9 @@ public final class FamineCode {
         void lay(int sheet, int newSort, int n) {
             sort[sheet] = newSort;
             length[sheet] = n;
-            Arrays.fill(numbers, sheet * LONGEST, (sheet + 1) * LONGEST, 0);
+            for (int i = 0; i < LONGEST; i++) {
+                put(sheet, i, 0);
+            }
         }
 
         boolean isMissing(int sheet) {

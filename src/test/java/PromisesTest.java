@@ -1056,6 +1056,9 @@ public final class PromisesTest {
         is(1, x.cell(0, 39, 5));
         is(1, x.sheet(0, 0, 40));
         is(0, lastSign(x, 0, 0, 39));
+        x.cell(0, 0, 6);
+        is(1, x.sheet(0, 0, 40));
+        is(0, lastSign(x, 0, 0, 0));
         is(1, x.sheet(3, 2, 0));
         refused(x, 12, x.cell(3, 0, 0));
         is(1, x.sheet(0, -1, OUT));
@@ -1260,6 +1263,49 @@ public final class PromisesTest {
         refused(x, 12, x.forge(3, 1, 3));
     }
 
+    /** Districts, lines, ways and works as many as there may be, all asked at once. */
+    private static void everyRoomFull() {
+        of("limits, all rows full");
+        FamineCode x = new FamineCode();
+        for (int d = 0; d < 6; d++) {
+            x.district(1000 + d, 1);
+            x.people(d, 1, 10);
+        }
+        for (int l = 0; l < 12; l++) {
+            x.line(l % 6, 4, 0, true, l - 1);
+        }
+        for (int w = 0; w < 12; w++) {
+            x.way(w % 6, (w + 1) % 6, 999, 1);
+        }
+        for (int w = 0; w < 8; w++) {
+            x.work(w % 6, 10, w);
+        }
+        is(63, x.open(5, 0, 0));
+        is(1, x.holds(11, 5, 60, 60));
+        is(5, x.why(5, 5, 0, 0));
+        is(10, x.lineTold(11, 6));
+        is(255, x.fewest(0, 80, 5));
+        is(1 + 64, x.fewest(0, 11, 0));
+        is(-1, x.fewest(0, 80, 4));
+        is(1000, x.load(0, 1000, 0));
+        is(1, x.loaded(0, 1000, 0, 5));
+        is(999, x.loaded(0, 1000, 0, 11));
+        is(6 * 60, x.beside(11, 1, 2));
+        is(6 * 30, x.beside(-1, 1, 3));
+        is(6 * 10, x.beside(-1, 1, 4));
+        is(0, x.beside(-1, 1, 0));
+        is(1, x.image());
+        is(0, x.week());
+        for (int d = 0; d < 6; d++) {
+            is(63, x.was(d, 0));
+            is(990 + d, x.told(d, 0));
+            is(30, x.told(d, 8));
+        }
+        is(6 * 60, x.count(6));
+        is(0, x.back());
+        is(1005, x.told(5, 0));
+    }
+
     private static void status() {
         of("34 status");
         FamineCode x = two();
@@ -1331,6 +1377,7 @@ public final class PromisesTest {
         cell();
         signs();
         forge();
+        everyRoomFull();
         status();
         DUE.end();
     }
