@@ -40,7 +40,7 @@ public final class RandomRunsTest {
                 row[i] *= liking == 0 ? 0 : liking == 1 ? 8 : liking == 2 ? 40 : 2;
             }
             row[0] = Math.max(row[0], 6);
-        row[6] = Math.max(row[6], 4);
+            row[6] = Math.max(row[6], 4);
             return row;
         }
 
