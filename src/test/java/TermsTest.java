@@ -612,13 +612,20 @@ public final class TermsTest {
             kept.line(sort, 4 + sort, 1, false, -1);
         }
         for (int w = 0; w < 60; w++) {
-            for (int d = 0; d < 6 && kept.count(2) < 200; d++) {
-                kept.sign(d, (w + d) % 4, w, 1);
+            if (w % 4 == 0) {
+                for (int d = 0; d < 6; d++) {
+                    kept.sign(d, (w / 4 + d) % 4, w, 1);
+                }
             }
             kept.week();
         }
-        for (int i = 0; i < 360; i++) {
-            is(i < 200 ? 1 << (i / 6 + i % 6) % 4 : 0, kept.was(i % 6, i / 6));
+        for (int i = 0; i < 120; i++) {
+            int w = i / 6 * 4 + i % 2;
+            is(w < 60 ? (w % 4 == 0 ? 1 << (w / 4 + i % 6) % 4 : 0) : -1, kept.was(i % 6, w));
+        }
+        for (int d = 0; d < 6; d++) {
+            is(0, kept.was(d, 59));
+            is(1 << (14 + d) % 4, kept.was(d, 56));
         }
         of("3: PAID, LENT and EARNED are of all DISTRICTS and all WEEKS");
         FamineCode all = new FamineCode();
@@ -1021,8 +1028,8 @@ public final class TermsTest {
             1 << 30, -(1 << 30), (1 << 30) - 1, 715827883, 1431655765
         };
         for (int[] told : new int[][] {{0, 1}, {400, 4}, {-400, 3}, {7, 2}}) {
-            FamineCode x = acting(told[0], told[1]);
             for (int l = 0; l < 12; l++) {
+                FamineCode x = acting(told[0], told[1]);
                 for (int act = 0; act < 4; act++) {
                     for (int number : xs) {
                         of("6: ACT " + act + " of LINE " + l + " with " + number + ", 32 bits wrapping");
